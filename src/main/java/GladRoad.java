@@ -515,7 +515,7 @@ public final class GladRoad {
     /** What a MILESTONE changes, and what UNDONE therefore brings back. */
     private static final class Trip {
         int his = NONE, n, mind, ahead, changes;
-        /** The first MILESTONE that REFUSED him since a foretelling began; of no meaning elsewhere. */
+        /** The first MILESTONE that REFUSED him since a foretelling began; of no meaning elsewhere, so not copied. */
         int refused = NONE;
         /** What each PERSON has; one place more is for one who waits. */
         final int[] theirs = new int[MOST_PEOPLE + 1];
@@ -526,7 +526,6 @@ public final class GladRoad {
             mind = t.mind;
             ahead = t.ahead;
             changes = t.changes;
-            refused = t.refused;
             System.arraycopy(t.theirs, 0, theirs, 0, theirs.length);
         }
 
@@ -934,25 +933,18 @@ public final class GladRoad {
                 if (!isLess || now.road.whoHas(t, now.trip) != NONE) {
                     continue;
                 }
-                int at = whereToWait(thing, t, now);
-                if (at != NONE) {
-                    with = t;
-                    milestone = at;
+                for (int m = now.trip.ahead; m < MILESTONES; m++) {
+                    begin(now);
+                    int waiting = road.addPerson(m, 0, t, trip);
+                    walkHome();
+                    if (waiting >= 0 && trip.theirs[waiting] == thing) {
+                        with = t;
+                        milestone = m;
+                        break;
+                    }
                 }
             }
             return with;
-        }
-
-        int whereToWait(int thing, int with, World now) {
-            for (int m = now.trip.ahead; m < MILESTONES; m++) {
-                begin(now);
-                int waiting = road.addPerson(m, 0, with, trip);
-                walkHome();
-                if (waiting >= 0 && trip.theirs[waiting] == thing) {
-                    return m;
-                }
-            }
-            return NONE;
         }
 
         /** Most WORTH that a PERSON can have by where it STANDS; the milestone tells where. */

@@ -124,6 +124,9 @@ public final class PromiseTests {
         }
         due(2, "an eleventh", x.thing(0, 0, 0, 0), FULL);
         due(2, "a bad eleventh", x.thing(0, 100, 0, 0), BAD);
+        x.go();
+        x.thing(0, 0, 0, 0);
+        due(2, "a refused one leaves what may be undone", x.count(9), 1);
     }
 
     private static void people() {
@@ -158,6 +161,11 @@ public final class PromiseTests {
         due(5, "a ninth", x.person(0, 0, 0), FULL);
         due(5, "a ninth with what is had", x.person(0, 1, 0), NOT);
         due(5, "a bad ninth", x.person(12, 1, 0), BAD);
+        x.go();
+        x.person(0, 0, 0);
+        due(5, "a refused one leaves what may be undone", x.count(9), 1);
+        due(7, "move(7, 11)", x.move(7, 11), 7);
+        due(7, "where it is now", x.told(7, 0), 11);
     }
 
     private static void he() {
@@ -250,6 +258,10 @@ public final class PromiseTests {
         for (int i = 0; i < stay.length; i++) {
             due(13, "all stays: count(" + i + ")", x.count(i), stay[i]);
         }
+        x.take(NONE);
+        road(x, "b1;=0");
+        x.go();
+        due(13, "a mind of care", x.count(5), 1);
         due(13, "a new road", road(x, "b1"), 1);
         int[] fresh = {1, 0, 0, NONE, 0, 0, 7, 5, 0, 0};
         for (int i = 0; i < fresh.length; i++) {
@@ -502,6 +514,8 @@ public final class PromiseTests {
         due(20, "its milestone", x.lurk(0, 1), 0);
         due(20, "behind the eighth for its", x.lurk(1, 0), 2);
         due(20, "its milestone", x.lurk(1, 1), 2);
+        x = on("p20l8,p50l9,p30l8;=1");
+        due(20, "with the first thing", x.lurk(1, 0), 0);
         x = on("u50l3,p40l8,p30l6;=0");
         due(20, "where it is heavy enough", x.lurk(0, 1), 1);
     }
@@ -561,11 +575,16 @@ public final class PromiseTests {
         due(23, "he has", x.meet(1, 1), 1);
         due(23, "the other one has", x.meet(1, 2), 0);
         due(23, "nothing is changed", x.count(3), 0);
+        due(23, "once more", x.meet(1, 0), 4);
         due(23, "of care, changed at the second turn, back at the third", x.meet(3, 0), NONE);
         x = on("p40l5,p40l5;=0");
         due(23, "like ones", x.meet(1, 0), 2);
         due(23, "he has", x.meet(1, 1), 0);
         due(23, "the other one has", x.meet(1, 2), 1);
+        x = on("m0l5c6,b20l4c7;=0");
+        x.heed(12);
+        due(23, "who was glad has his new one for 0 too", x.meet(1, 0), 4);
+        due(23, "he has", x.meet(1, 1), 1);
         x = on("b40l5,p40l5c6;=0");
         due(23, "neither wants its care", x.meet(1, 0), NONE);
         x = on("b40l5,p40l5c5;=0");
@@ -619,6 +638,9 @@ public final class PromiseTests {
         due(25, "nothing", x.cheated(4), 0);
         due(25, "none", x.cheated(-1), NONE);
         due(25, "none", x.cheated(-99), NONE);
+        x = on("p99l1,p0;0=1;=0");
+        due(25, "by the highest heed", x.cheated(99), 99);
+        due(25, "by the lowest", x.cheated(98), 0);
     }
 
     private static void chances() {
@@ -649,8 +671,12 @@ public final class PromiseTests {
         due(26, "the middle one", x.chance(1, 0), 0);
         go(x, 3);
         due(26, "at home", x.chance(0, 0), 1);
+        due(26, "at home", x.chance(1, 0), 0);
         due(26, "at home", x.chance(0, 1), 1);
         due(26, "at home", x.chance(NONE, 0), 0);
+        x = on("p50l5c4,p10l5c8;11=1;=0");
+        go(x, 11);
+        due(26, "twice is no more than twice", x.chance(1, 0), 0);
         x = on("p50l5c4,p10l5c4,p5l5c6;11=1,11=2;=0");
         go(x, 11);
         due(26, "what he got there is felt twice too", x.chance(2, 0), 1);
@@ -708,6 +734,16 @@ public final class PromiseTests {
         x.road();
         x.restore();
         due(27, "the later image", x.count(0), 7);
+        x = on("p1,p2,p3");
+        go(x, 1);
+        x.image();
+        x.undo();
+        x.take(2);
+        go(x, 9);
+        x.restore();
+        due(28, "what may be undone", x.undo(), 0);
+        due(28, "is what was then", x.count(3), NONE);
+        due(28, "is where he was then", x.count(2), 0);
     }
 
     private static void seen() {
@@ -892,5 +928,10 @@ public final class PromiseTests {
             due(35, "out of a row", x.copy(0, o[0], 2, o[1], o[2]), INDEX);
         }
         due(35, "none at the ends", x.copy(0, 6, 2, 3, 0), 0);
+        x.sheet(3, 1, 2);
+        due(35, "to the last sheet", x.copy(0, 2, 3, 0, 2), 2);
+        due(35, "from the last sheet", x.copy(3, 0, 2, 0, 2), 2);
+        dueItems(35, x, 2, 1, 1, 2, 2);
+        due(35, "a bad one", x.copy(4, 0, 0, 0, 1), BAD);
     }
 }
