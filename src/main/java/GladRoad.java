@@ -119,8 +119,7 @@ public final class GladRoad {
         if (thing != NONE && thing != before && isHad(thing)) {
             return NOT;
         }
-        now.trip.his = thing;
-        now.trip.n = 0;
+        now.trip.hasNew(thing);
         return before;
     }
 
@@ -529,10 +528,15 @@ public final class GladRoad {
             System.arraycopy(t.theirs, 0, theirs, 0, theirs.length);
         }
 
+        /** Whatever he has anew, nothing too, he had for 0 MILESTONES. */
+        void hasNew(int thing) {
+            his = thing;
+            n = 0;
+        }
+
         /** CHANGES so far are not told to begin anew with a ROAD, so they stay. */
         void setOut() {
-            his = NONE;
-            n = 0;
+            hasNew(NONE);
             mind = OF_LOAD;
             ahead = 0;
         }
@@ -631,7 +635,7 @@ public final class GladRoad {
                 }
             }
             if (well == t.ahead && isThing(t.his) && things[t.his].feltBy(OF_LOAD, t.n) >= DROWNING_LOAD) {
-                t.his = NONE;
+                t.hasNew(NONE);
             }
             t.ahead++;
             return t.changes - before;
@@ -653,8 +657,7 @@ public final class GladRoad {
             boolean isWilling = things[t.his].worth >= things[offered].worth + margin[person];
             if (isWilling) {
                 t.theirs[person] = t.his;
-                t.his = offered;
-                t.n = 0;
+                t.hasNew(offered);
                 t.changes++;
             } else if (t.refused == NONE) {
                 t.refused = t.ahead;
@@ -986,10 +989,8 @@ public final class GladRoad {
                 return false;
             }
             int given = one.his;
-            one.his = another.his;
-            another.his = given;
-            one.n = 0;
-            another.n = 0;
+            one.hasNew(another.his);
+            another.hasNew(given);
             return true;
         }
 
@@ -1000,7 +1001,7 @@ public final class GladRoad {
                     continue;
                 }
                 begin(now);
-                trip.n = trip.his == NONE ? 0 : trip.n;
+                // Had as long as his; of nothing that is 0 already.
                 trip.his = t;
                 walkHome();
                 if (trip.his == thing) {

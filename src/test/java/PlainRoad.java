@@ -300,7 +300,7 @@ final class PlainRoad {
                 w = new Walk(w.has, w.n, w.mind, w.at, w.changes, w.theirs, w.at);
             }
         }
-        if (a.well == w.at && w.has != NONE && a.things.get(w.has).load(w.n) >= 10) w = w.with(NONE, w.n);
+        if (a.well == w.at && w.has != NONE && a.things.get(w.has).load(w.n) >= 10) w = w.with(NONE, 0);
         return new Walk(w.has, w.n, w.mind, w.at + 1, w.changes, w.theirs, w.refused);
     }
 

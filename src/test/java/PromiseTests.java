@@ -352,9 +352,14 @@ public final class PromiseTests {
         due(14, "a change is none", x.go(), 0);
         due(14, "gone", x.count(3), NONE);
         due(14, "nobody has it", x.of(0, 4), NONE);
-        due(14, "n is not told to change", x.count(4), 2);
+        due(9, "nothing, had for 0 milestones", x.count(4), 0);
+        due(14, "nothing to carry on", x.go(), 0);
+        due(9, "nothing stays at 0", x.count(4), 0);
+        due(15, "undo behind the well", x.undo(), 2);
+        due(15, "nothing still, for 0 milestones", x.count(4), 0);
         due(14, "lost in the well", x.undo(), 1);
         due(14, "undone", x.count(3), 0);
+        due(15, "had for 1 again", x.count(4), 1);
         x.take(1);
         x.well(2);
         due(18, "a burden on its second milestone, 11", x.home(0), NONE);
