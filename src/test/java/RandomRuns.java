@@ -180,7 +180,7 @@ public final class RandomRuns {
                 return false;
             }
         }
-        return answersAlike("road");
+        return calls >= CALLS || answersAlike("road");
     }
 
     private String roadText() {
