@@ -14,6 +14,12 @@ public final class RandomRuns {
         "first", "cheated", "chance", "image", "restore", "seen", "film", "deal", "sheet", "drop", "item", "copy"};
     private static final Map<String, Method> METHODS = new TreeMap<>();
     private static final Map<String, Integer> ANSWERED = new TreeMap<>();
+    /** Answers of the rarer kinds: without many of each, the runs would compare little but refusals. */
+    private static final String[] OFTEN = {"lurk ok", "lurk -4", "lurk -2", "meet ok", "meet -4", "meet -2", "first ok",
+        "stand ok", "sister ok", "sister -2", "cheated ok", "cheated -4", "chance ok", "chance in between", "home -4",
+        "seen ok", "film ok", "deal ok", "deal -2", "copy ok", "person ok", "person -2", "person -3", "thing -3",
+        "type -3", "undo ok", "restore ok", "road ok", "road -20"};
+    private static final int OFTEN_ENOUGH = 60;
 
     private final Random random;
     private final GladRoad real = new GladRoad();
@@ -37,6 +43,12 @@ public final class RandomRuns {
         if (args.length > 0) {
             System.out.println(ANSWERED);
         }
+        for (String answer : OFTEN) {
+            if (ANSWERED.getOrDefault(answer, 0) < OFTEN_ENOUGH) {
+                System.out.println("too few of '" + answer + "': " + ANSWERED.get(answer));
+                System.exit(1);
+            }
+        }
         System.out.println(RUNS + " random runs are as due");
     }
 
@@ -44,9 +56,11 @@ public final class RandomRuns {
         boolean wild = seed % 5 == 0;
         // Some runs build a road call by call, most begin with one as a text, some only type texts.
         int every = seed % 7 == 0 ? 10 : 400;
+        boolean near = seed % 3 == 1;
         while (calls < CALLS) {
             boolean types = calls == 0 ? seed % 3 > 0 : random.nextInt(every) == 0;
-            boolean same = types ? typeRoad(every < 100) : one(wild);
+            boolean same = !types ? one(wild) : near ? typeRoad(nearRoadText(), every < 100) && foretold()
+                : typeRoad(roadText(), every < 100);
             if (!same) {
                 System.out.println("seed " + seed + ":");
                 log.forEach(System.out::println);
@@ -104,11 +118,11 @@ public final class RandomRuns {
             case "thing":
                 return random.nextInt(new int[] {4, 100, 31, 31}[i]);
             case "felt":
-                return random.nextInt(new int[] {8, 100, 2}[i]);
+                return i == 0 ? thing() : random.nextInt(i == 1 ? 100 : 2);
             case "person":
                 return i == 1 ? thingOrNone() : random.nextInt(i == 0 ? 12 : 21);
             case "move":
-                return random.nextInt(i == 0 ? 6 : 12);
+                return i == 0 ? person() : random.nextInt(12);
             case "take":
                 return thingOrNone();
             case "chance":
@@ -139,21 +153,32 @@ public final class RandomRuns {
                 return random.nextInt(3);
             case "told":
             case "stand":
-                return random.nextInt(new int[] {4, name.equals("told") ? 3 : 2}[i]);
+                return i == 0 ? person() : random.nextInt(name.equals("told") ? 3 : 2);
             case "of":
             case "meet":
-                return random.nextInt(new int[] {8, name.equals("of") ? 5 : 3}[i]);
+                return i == 0 ? thing() : random.nextInt(name.equals("of") ? 5 : 3);
             default:
-                return random.nextInt(i == 0 ? 8 : 2);
+                return i == 0 ? thing() : random.nextInt(2);
         }
     }
 
-    private long thingOrNone() {
-        return random.nextInt(5) == 0 ? PlainRoad.NONE : random.nextInt(10);
+    /** Mostly one that there is. */
+    private long thing() {
+        int things = plain.all.things().size();
+        return random.nextInt(things == 0 || random.nextInt(10) == 0 ? 10 : things);
     }
 
-    private boolean typeRoad(boolean faulty) throws IllegalAccessException {
-        StringBuilder text = new StringBuilder(roadText());
+    private long person() {
+        int people = plain.all.people().size();
+        return random.nextInt(people == 0 || random.nextInt(10) == 0 ? 8 : people);
+    }
+
+    private long thingOrNone() {
+        return random.nextInt(5) == 0 ? PlainRoad.NONE : thing();
+    }
+
+    private boolean typeRoad(String road, boolean faulty) throws IllegalAccessException {
+        StringBuilder text = new StringBuilder(road);
         for (int faults = faulty ? random.nextInt(3) : 0; faults > 0 && text.length() > 0; faults--) {
             int at = random.nextInt(text.length());
             char letter = "pbumlc,;=+0123456789  x".charAt(random.nextInt(23));
@@ -180,7 +205,7 @@ public final class RandomRuns {
                 return false;
             }
         }
-        return calls >= CALLS || answersAlike("road");
+        return stillAlike("road");
     }
 
     private String roadText() {
@@ -210,6 +235,50 @@ public final class RandomRuns {
         return s.toString();
     }
 
+    /** THINGS that are much alike and PEOPLE all along the road: much is changed, refused and waited for. */
+    private String nearRoadText() {
+        StringBuilder s = new StringBuilder();
+        int things = 5 + random.nextInt(5), load = 2 + random.nextInt(9);
+        List<Integer> free = new ArrayList<>();
+        for (int i = 0; i < things; i++) {
+            s.append(i == 0 ? "" : ",").append("pbum".charAt(random.nextInt(4))).append(40 + random.nextInt(20));
+            s.append('l').append(load + random.nextInt(5)).append('c').append(load / 2 + random.nextInt(load));
+            free.add(i);
+        }
+        int people = 2 + random.nextInt(things - 3);
+        for (int i = 0; i < people; i++) {
+            int milestone = random.nextInt(3) == 0 ? 11 : 11 * (i + 1) / people;
+            s.append(i == 0 ? ";" : ",").append(milestone).append('=').append(free.remove(random.nextInt(free.size())));
+        }
+        // Eight of them at times: the one who WAITS is a ninth.
+        for (int i = random.nextInt(2) == 0 ? 8 : people; i < 8; i++) {
+            s.append(',').append(random.nextInt(12));
+        }
+        return s.append(";=").append(free.remove(random.nextInt(free.size()))).toString();
+    }
+
+    /** Some MILESTONES on, what is FORETOLD of each THING and each PERSON. */
+    private boolean foretold() throws IllegalAccessException {
+        boolean alike = true;
+        for (int i = 2 + random.nextInt(3); i > 0; i--) {
+            alike = alike && stillAlike("go");
+        }
+        for (int t = 0; t < plain.all.things().size(); t++) {
+            alike = alike && stillAlike("chance", t, 0) && stillAlike("chance", t, 1) && stillAlike("lurk", t, 0)
+                && stillAlike("lurk", t, 1) && stillAlike("meet", t, 0) && stillAlike("meet", t, 1)
+                && stillAlike("meet", t, 2) && stillAlike("first", t);
+        }
+        for (int p = 0; p < plain.all.people().size(); p++) {
+            alike = alike && stillAlike("stand", p, 0) && stillAlike("stand", p, 1);
+        }
+        return alike;
+    }
+
+    /** One call more, where the object may be asked one more. */
+    private boolean stillAlike(String name, long... a) throws IllegalAccessException {
+        return calls >= CALLS || answersAlike(name, a);
+    }
+
     private boolean answersAlike(String name, long... a) throws IllegalAccessException {
         calls++;
         Method m = METHODS.get(name);
@@ -228,6 +297,9 @@ public final class RandomRuns {
             answer = e.getCause().toString();
         }
         ANSWERED.merge(name + (due < 0 ? " " + Math.max(due, -20) : " ok"), 1, Integer::sum);
+        if (name.equals("chance") && due > 1) {
+            ANSWERED.merge("chance in between", 1, Integer::sum);
+        }
         log.add(name + java.util.Arrays.toString(a) + " answered " + answer + ", due is " + due);
         return answer.equals(Integer.toString(due));
     }
